@@ -234,18 +234,18 @@ public final class SliceSolver {
     }
 
     public int isSatisfiable() {
-        return chosenModel().exists() ? 1 : 0;
+        return chosenModel().oneCount() == NONE ? 0 : 1;
     }
 
     public int oneBits() {
-        return chosenModel().exists() ? model.oneCount() : NONE;
+        return chosenModel().oneCount();
     }
 
     public int value(int variable) {
         if (!isVariable(variable)) {
             return INVALID_ARGUMENT;
         }
-        if (!chosenModel().exists()) {
+        if (chosenModel().oneCount() == NONE) {
             return NONE;
         }
         int number = 0;
@@ -374,7 +374,7 @@ public final class SliceSolver {
         return node >= CONSTANT;
     }
 
-    /** The text and the tokens that it falls into. */
+    /** The text, the tokens that it falls into, and the token at which the reading stands. */
     private static final class Text {
         /** Kinds of tokens; a token that is one character has the character as its kind. */
         static final int WORD = 256;
@@ -390,6 +390,7 @@ public final class SliceSolver {
         private final int[] starts = new int[TEXT_LIMIT];
         private final int[] lengths = new int[TEXT_LIMIT];
         private int tokens;
+        private int at;
 
         int length() {
             return length;
@@ -410,8 +411,10 @@ public final class SliceSolver {
             length = 0;
         }
 
+        /** Cuts the text into tokens, and stands at the first one. */
         void split() {
             tokens = 0;
+            at = 0;
             int previous = ' ';
             for (int i = 0; i < length; i++) {
                 int kind = kindOfSign(signs[i]);
@@ -428,73 +431,87 @@ public final class SliceSolver {
             }
             for (int token = 0; token < tokens; token++) {
                 if (kinds[token] == WORD) {
-                    kinds[token] = kindOfWord(token);
+                    kinds[token] = kindOfWord(starts[token], lengths[token]);
                 }
             }
         }
 
-        int kind(int token) {
-            return isToken(token) ? kinds[token] : END;
+        int kind() {
+            return at < tokens ? kinds[at] : END;
         }
 
-        int start(int token) {
-            return isToken(token) ? starts[token] : length;
+        int start() {
+            return at < tokens ? starts[at] : length;
         }
 
-        int digitCount(int token) {
-            return isToken(token) ? lengths[token] : 0;
-        }
-
-        /** The i-th digit of a run of digits, or the i-th letter of a word, counted from first. */
-        int sign(int token, int i, char first) {
-            return isToken(token) && i >= 0 && i < lengths[token] ? signs[starts[token] + i] - first : 0;
-        }
-
-        /** The number that a token stands for, or NONE if it is not allowed as a number. */
-        int number(int token) {
-            if (kind(token) != DIGITS) {
-                return NONE;
+        void advance() {
+            if (at < tokens) {
+                at++;
             }
-            int first = sign(token, 0, '0');
-            if (lengths[token] == 1) {
-                return first;
-            }
-            boolean isTwoDigits = lengths[token] == 2 && first != 0;
-            return isTwoDigits ? 10 * first + sign(token, 1, '0') : NONE;
         }
 
-        boolean isBinary(int token) {
-            if (kind(token) != DIGITS || lengths[token] > MAX_WIDTH) {
+        /** Goes on to the next token, if the present one is of the kind. */
+        boolean pass(int kind) {
+            if (at >= tokens || kinds[at] != kind) {
                 return false;
             }
-            for (int i = 0; i < lengths[token]; i++) {
-                if (sign(token, i, '0') > 1) {
-                    return false;
-                }
-            }
+            at++;
             return true;
         }
 
-        private boolean isToken(int token) {
-            return token >= 0 && token < tokens;
+        /** The variable that the token names, or NONE. */
+        int name() {
+            return at < tokens && kinds[at] == NAME ? signs[starts[at]] - 'a' : NONE;
         }
 
-        private int kindOfWord(int token) {
-            if (lengths[token] == 1 && sign(token, 0, 'a') < VARIABLES) {
+        /** The number that the token stands for, or NONE if it is not allowed as a number. */
+        int number() {
+            if (at >= tokens || kinds[at] != DIGITS) {
+                return NONE;
+            }
+            int first = signs[starts[at]] - '0';
+            if (lengths[at] == 1) {
+                return first;
+            }
+            boolean isTwoDigits = lengths[at] == 2 && first != 0;
+            return isTwoDigits ? 10 * first + signs[starts[at] + 1] - '0' : NONE;
+        }
+
+        /** How many constant bits the token stands for, 0 if it is not allowed as a constant. */
+        int constantBits() {
+            if (at >= tokens || kinds[at] != DIGITS || lengths[at] > MAX_WIDTH) {
+                return 0;
+            }
+            for (int i = 0; i < lengths[at]; i++) {
+                if (signs[starts[at] + i] > '1') {
+                    return 0;
+                }
+            }
+            return lengths[at];
+        }
+
+        /** The i-th constant bit of the token, from the most significant one on. */
+        int constantBit(int i) {
+            boolean isThere = at < tokens && i >= 0 && i < lengths[at];
+            return isThere && signs[starts[at] + i] == '1' ? 1 : 0;
+        }
+
+        private int kindOfWord(int start, int size) {
+            if (size == 1 && signs[start] < 'a' + VARIABLES) {
                 return NAME;
             }
-            if (isWord(token, "bits")) {
+            if (isWord(start, size, "bits")) {
                 return BITS;
             }
-            return isWord(token, "not") ? NOT : WORD;
+            return isWord(start, size, "not") ? NOT : WORD;
         }
 
-        private boolean isWord(int token, String word) {
-            if (lengths[token] != word.length()) {
+        private boolean isWord(int start, int size, String word) {
+            if (size != word.length()) {
                 return false;
             }
-            for (int i = 0; i < word.length(); i++) {
-                if (sign(token, i, word.charAt(i)) != 0) {
+            for (int i = 0; i < size; i++) {
+                if (signs[start + i] != word.charAt(i)) {
                     return false;
                 }
             }
@@ -516,7 +533,8 @@ public final class SliceSolver {
     private static final class Reader {
         private final Text text;
         private final Term term = new Term();
-        private int at;
+        private int high;
+        private int low;
 
         Reader(Text text) {
             this.text = text;
@@ -526,126 +544,108 @@ public final class SliceSolver {
         int read(Problem target) {
             target.clear();
             text.split();
-            at = 0;
             boolean isGood = true;
-            for (int i = 0; i < TEXT_LIMIT && isGood && text.kind(at) != Text.END; i++) {
-                isGood = text.kind(at) == Text.BITS ? readDeclaration(target) : readStatement(target);
+            for (int i = 0; i < TEXT_LIMIT && isGood && text.kind() != Text.END; i++) {
+                isGood = text.pass(Text.BITS) ? readDeclaration(target) : readStatement(target);
             }
-            return isGood ? NONE : text.start(at);
+            return isGood ? NONE : text.start();
         }
 
         private boolean readDeclaration(Problem target) {
-            at++;
-            if (text.kind(at) != Text.NAME || target.widthOf(name()) != 0) {
+            int variable = text.name();
+            if (variable == NONE || target.widthOf(variable) != 0) {
                 return false;
             }
-            int variable = name();
-            at++;
-            int number = text.number(at);
+            text.advance();
+            int number = text.number();
             if (number < 1 || number > MAX_WIDTH) {
                 return false;
             }
+            text.advance();
             target.declare(variable, number);
-            at++;
-            return pass(';');
+            return text.pass(';');
         }
 
         private boolean readStatement(Problem target) {
-            boolean isNegated = text.kind(at) == Text.NOT;
+            boolean isNegated = text.kind() == Text.NOT;
             Statements list = isNegated ? target.disequations : target.equations;
             if (list.isFull()) {
                 return false;
             }
             if (isNegated) {
-                at++;
+                text.advance();
             }
-            if (!readTerm(target) || term.bitCount() > MAX_WIDTH || text.kind(at) != '=') {
+            if (!readTerm(target) || term.bitCount() > MAX_WIDTH || !text.pass('=')) {
                 return false;
             }
-            list.putTerm(LEFT, term);
             int width = term.bitCount();
-            at++;
-            if (!readTerm(target) || term.bitCount() != width || text.kind(at) != ';') {
+            list.putTerm(LEFT, term);
+            if (!readTerm(target) || term.bitCount() != width || !text.pass(';')) {
                 return false;
             }
             list.putTerm(RIGHT, term);
             list.finish(width);
-            at++;
             return true;
         }
 
         private boolean readTerm(Problem target) {
             term.clear();
             boolean isGood = readPart(target);
-            for (int i = 0; i < TEXT_LIMIT && isGood && text.kind(at) == '.'; i++) {
-                at++;
+            for (int i = 0; i < TEXT_LIMIT && isGood && text.pass('.'); i++) {
                 isGood = readPart(target);
             }
             return isGood;
         }
 
         private boolean readPart(Problem target) {
-            if (text.kind(at) == '%') {
-                at++;
+            if (text.pass('%')) {
                 return readConstant();
             }
-            if (text.kind(at) != Text.NAME || target.widthOf(name()) == 0) {
+            int variable = text.name();
+            if (variable == NONE || target.widthOf(variable) == 0) {
                 return false;
             }
-            int variable = name();
-            int width = target.widthOf(variable);
-            at++;
-            if (text.kind(at) == '[') {
-                at++;
-                return readRange(variable, width);
-            }
-            term.addRange(nodeOf(variable, width - 1), nodeOf(variable, 0));
-            return true;
-        }
-
-        private boolean readRange(int variable, int width) {
-            int high = text.number(at);
-            if (high < 0 || high >= width) {
-                return false;
-            }
-            at++;
-            if (!pass(':')) {
-                return false;
-            }
-            int low = text.number(at);
-            if (low < 0 || low > high) {
-                return false;
-            }
-            at++;
-            if (!pass(']')) {
+            text.advance();
+            high = target.widthOf(variable) - 1;
+            low = 0;
+            if (text.pass('[') && !readRange()) {
                 return false;
             }
             term.addRange(nodeOf(variable, high), nodeOf(variable, low));
             return true;
         }
 
+        /** Narrows the range from high to low, which holds all bits of the variable before. */
+        private boolean readRange() {
+            int first = text.number();
+            if (first < 0 || first > high) {
+                return false;
+            }
+            high = first;
+            text.advance();
+            if (!text.pass(':')) {
+                return false;
+            }
+            int second = text.number();
+            if (second < 0 || second > high) {
+                return false;
+            }
+            low = second;
+            text.advance();
+            return text.pass(']');
+        }
+
         private boolean readConstant() {
-            if (!text.isBinary(at)) {
+            int count = text.constantBits();
+            if (count == 0) {
                 return false;
             }
             term.beginPart();
-            for (int i = 0; i < text.digitCount(at); i++) {
-                term.add(CONSTANT + text.sign(at, i, '0'));
+            for (int i = 0; i < count; i++) {
+                term.add(CONSTANT + text.constantBit(i));
             }
-            at++;
+            text.advance();
             return true;
-        }
-
-        private boolean pass(int kind) {
-            if (text.kind(at) != kind) {
-                return false;
-            }
-            at++;
-            return true;
-        }
-
-        private int name() {
-            return text.sign(at, 0, 'a');
         }
     }
 
@@ -1052,14 +1052,11 @@ public final class SliceSolver {
         /** Free bits that flip something: in a model with the fewest ones, no other bit is 1. */
         private final int[] candidates = new int[NODES];
         private int candidateCount;
+        /** There are never more ones than disequations. */
         private final int[] ones = new int[MAX_DISEQUATIONS];
         private int oneCount;
-        private boolean isFound;
 
-        boolean exists() {
-            return isFound;
-        }
-
+        /** The number of ones, or NONE if there is no model. */
         int oneCount() {
             return oneCount;
         }
@@ -1074,16 +1071,20 @@ public final class SliceSolver {
         }
 
         void choose(Statements disequations, Classes classes) {
-            isFound = false;
-            oneCount = 0;
+            oneCount = NONE;
             if (!classes.agree()) {
                 return;
             }
             long word = wordOfZeros(disequations, classes);
             gatherCandidates();
-            for (int size = 0; size <= disequations.count() && !isFound; size++) {
-                isFound = pick(size, word);
-                oneCount = isFound ? size : 0;
+            if (holds(word)) {
+                oneCount = 0;
+            } else if (pickLast(0, 0, word)) {
+                oneCount = 1;
+            } else if (pickLastTwo(0, 0, word)) {
+                oneCount = 2;
+            } else if (pickThree(word)) {
+                oneCount = 3;
             }
         }
 
@@ -1121,19 +1122,6 @@ public final class SliceSolver {
                     candidates[candidateCount] = node;
                     candidateCount++;
                 }
-            }
-        }
-
-        private boolean pick(int size, long word) {
-            switch (size) {
-                case 0:
-                    return holds(word);
-                case 1:
-                    return pickLast(0, 0, word);
-                case 2:
-                    return pickLastTwo(0, 0, word);
-                default:
-                    return pickThree(word);
             }
         }
 

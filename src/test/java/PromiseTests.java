@@ -214,6 +214,10 @@ public final class PromiseTests {
     position("bits not4;", 5);
     position("bits i4;", 5);
     position("bits z4;", 5);
+    position("bits az4;", 5);
+    position("bits za4;", 5);
+    position("bits a{4;", 6);
+    position("bits a`4;", 6);
     position("bits A4;", 5);
     position("Bits a4;", 0);
     position("bit a4;", 0);
