@@ -197,6 +197,12 @@ public final class PromiseTests {
     type(x, "7;");
     due("load of both halves", x.load(), 0);
     due("width(0)", x.width(0), 7);
+    String whole = "bits a4;bits b4;not a[3:2].%01=b;a=b;";
+    for (int end = 0; end <= whole.length(); end++) {
+      String begin = whole.substring(0, end);
+      x = type(loaded(whole), begin);
+      due("load of \"" + begin + "\" after a longer text", x.load(), loadOf(begin));
+    }
   }
 
   private static void tokens() {
