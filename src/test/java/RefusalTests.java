@@ -23,8 +23,8 @@ public final class RefusalTests {
   record Situation(String name, Consumer<Run> path, String rest, List<Refusal> refusals) {}
 
   public static void main(String[] args) {
-    for (Situation situation : List.of(fresh(), loaded(), inconsistent(), unsatisfiable(), crowded(), atLimits(),
-        fullAndValid(), fullAndRefused())) {
+    for (Situation situation : List.of(fresh(), loaded(), inconsistent(), unsatisfiable(), crowded(), restored(),
+        atLimits(), fullAndValid(), fullAndRefused())) {
       nothingChanges(situation);
     }
     firstListed();
@@ -78,6 +78,13 @@ public final class RefusalTests {
       run.due(0, "save", 0).type("bits a7;a=a;a[0:0]=%1;not a=a;").due(3, "load").due(3, "save", 1);
       run.due(1, "removeEquation", 0).due(6, "undoDepth").type("bits h1");
     }, "6;", with(refusedEverywhere(1, 1), new Refusal(-17, "load")));
+  }
+
+  private static Situation restored() {
+    return new Situation("a restored problem without saved states", run -> run
+        .type("bits a3;bits f2;a[1:0]=f;not a=%000;").due(2, "load").due(2, "save", 1).due(0, "removeEquation", 0)
+        .due(2, "restore", 1).type("bits b2;b=b"), ";", with(refusedEverywhere(1, 1), new Refusal(-21, "load"),
+            new Refusal(Run.ILLEGAL, "undo"), new Refusal(Run.ILLEGAL, "restore", 0)));
   }
 
   private static Situation atLimits() {

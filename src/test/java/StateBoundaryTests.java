@@ -8,6 +8,7 @@ public final class StateBoundaryTests {
 
   public static void main(String[] args) {
     newObject();
+    allLimits();
     variables();
     undeclared();
     bitNumbers();
@@ -52,6 +53,20 @@ public final class StateBoundaryTests {
     run.due(Run.INVALID, "removeEquation", 0).due(Run.INVALID, "removeDisequation", 0);
     run.due(Run.INVALID, "isImplied", 0).due(Run.ILLEGAL, "undo");
     run.due(Run.ILLEGAL, "restore", 0).due(Run.ILLEGAL, "restore", 1);
+  }
+
+  private static void allLimits() {
+    Run.sentence("at most 10 equations and at most 3 disequations, whose terms have at most 16 bits");
+    String ones = "%1111111111111111";
+    Run run = Run.of("bits g16;bits h16;" + "g=h;".repeat(9) + "h=g;" + "not g=h;".repeat(2) + "not h=" + ones + ";");
+    run.due(10, "equationCount").due(3, "disequationCount").due(1, "sliceCount", 6).due(1, "sliceCount", 7)
+        .due(1, "classCount").due(16, "freeBits").due(0, "isImplied", 2).due(0, "isSatisfiable");
+    run.due(13, "save", 1).due(2, "removeDisequation", 0).due(1, "removeDisequation", 0).due(0, "value", 7);
+    run.due(9, "removeEquation", 0).due(8, "removeEquation", 8).due(1, "classCount").due(13, "restore", 1);
+    run.due(10, "equationCount").due(Run.NONE, "value", 7).due(Run.NONE, "conflictSet");
+    Run.of("bits g16;bits h16;" + "g=h;".repeat(8) + "g=" + ones + ";h[15:0]=%0111111111111111;not g=h;not h=" + ones + ";")
+        .due(9, "firstConflict").due(896, "conflictSet").due(9, "removeEquation", 9).due(0, "isImplied", 1)
+        .due(Run.NONE, "oneBits").due(0, "freeBits");
   }
 
   // ---- promises 7 to 14
@@ -173,6 +188,11 @@ public final class StateBoundaryTests {
     Run.of("bits a4;a=%0.%101;").due(2, "sliceCount", 0).due(3, "sliceStart", 0, 1);
     Run.of("bits a4;a=%010.%1;").due(2, "sliceCount", 0).due(1, "sliceStart", 0, 1);
     Run.of("bits a4;bits b4;a=b[3:2].b[1:0];").due(2, "sliceCount", 0).due(2, "sliceCount", 1);
+    Run.of("bits a4;bits b4;bits c2;bits d2;c.d=%0101;a=b;").due(1, "sliceCount", 0).due(1, "sliceCount", 1);
+    Run.of("bits a4;bits b4;bits c2;bits d2;a=c.d;b=b;").due(2, "sliceCount", 0).due(1, "sliceCount", 1);
+    Run.sentence("behind the width of the terms there is nothing of a wider equation of an earlier problem");
+    Run.of("bits a16;bits b16;a=b;").type("bits a16;bits b16;a[3:0]=b[5:2];").due(1, "load").due(2, "sliceCount", 0)
+        .due(3, "sliceCount", 1).due(4, "classCount");
     Run.sentence("constant bits have no cuts, and carry none from one variable to another");
     Run.of("bits a4;bits b4;a=%0101;b=%0101;a[0:0]=%1;").due(2, "sliceCount", 0).due(1, "sliceCount", 1);
     Run.of("bits a4;a=%0101;").due(1, "sliceCount", 0).due(1, "classCount");
@@ -272,6 +292,8 @@ public final class StateBoundaryTests {
     Run.of("bits a16;a[15:15]=%1;a[0:0]=%0;").due(1, "fixedBit", 0, 15).due(0, "fixedBit", 0, 0)
         .due(Run.NONE, "fixedBit", 0, 14).due(Run.NONE, "fixedBit", 0, 1);
     Run.of("bits a2;bits h2;a=h;a=%10;").due(1, "fixedBit", 7, 1).due(0, "fixedBit", 7, 0);
+    Run.of("bits a2;bits h2;h=%10;a=h;").due(1, "fixedBit", 0, 1).due(0, "fixedBit", 0, 0);
+    Run.of("bits a2;bits h2;h=%10;h=a;").due(1, "fixedBit", 0, 1).due(0, "fixedBit", 0, 0);
     Run.of("bits a2;not a=%00;not a=%01;not a=%10;").due(Run.NONE, "fixedBit", 0, 0).due(3, "value", 0);
     Run.sentence("ILLEGAL_STATE if the equations are not consistent: fixedBit");
     Run.of("bits a1;a=%1;%1=%0;").due(Run.ILLEGAL, "fixedBit", 0, 0).due(1, "removeEquation", 1)
@@ -336,6 +358,8 @@ public final class StateBoundaryTests {
     Run.of("bits a2;bits b2;bits c2;not a=b;not b=c;not a=c;").due(2, "oneBits").due(1, "value", 0)
         .due(2, "value", 1).due(0, "value", 2);
     Run.of("bits a16;not a[15:14]=%00;").due(16384, "value", 0);
+    Run.of("bits h1;not h=%0;").due(1, "oneBits").type("bits a1;bits h1;not a=h;").due(1, "load").due(1, "oneBits")
+        .due(1, "value", 0).due(0, "value", 7);
     Run.sentence("Free bits are ordered: by the smallest variable, then by the smallest number of a slice, then by position");
     Run.of("bits a4;bits b4;a[3:3]=b[0:0];not a[3:3].b[1:1]=%00;").due(8, "value", 0).due(1, "value", 1);
     Run.of("bits a4;bits b4;a[0:0]=b[3:3];not b[3:2]=%00;").due(1, "value", 0).due(8, "value", 1);

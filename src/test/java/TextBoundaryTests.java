@@ -79,6 +79,7 @@ public final class TextBoundaryTests {
     new Run().type(Run.times(" ", 200)).due(0, "load").due(0, "clearText");
     String wide = "bits a8;" + Run.times("a.", 95) + "a";
     new Run().type(wide + "=").due(-10 - 199, "load").due(200, "clearText");
+    new Run().type(Run.times("%1.", 66) + "%1").due(-210, "load").due(200, "clearText");
     new Run().type("%" + Run.times("1", 199)).due(-11, "load").due(200, "clearText");
     new Run().type(Run.times("a", 200)).due(-10, "load").due(200, "clearText");
   }
@@ -257,7 +258,7 @@ public final class TextBoundaryTests {
   private static void words() {
     Run.sentence("\"bits\", \"not\" and the one-letter words a to h (names) are the only words that are allowed");
     for (String word : new String[] {"bit", "bitss", "bbits", "bitt", "cits", "bats", "bins", "sbit", "no", "nott",
-        "nnot", "nod", "mot", "nut", "ab", "aa", "hh", "i", "z", "bitsnot", "notbits", "n", "notb"}) {
+        "nnot", "nod", "mot", "nut", "ab", "aa", "hh", "az", "za", "i", "z", "bitsnot", "notbits", "n", "notb"}) {
       Run.refused("bits a4;" + word, 8);
       Run.refused("bits a4; " + word + " b4;", 9);
       Run.refused("bits " + word + "4;", 5);
