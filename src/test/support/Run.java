@@ -57,6 +57,10 @@ final class Run {
     new Run().type(text).due(-10 - position, "load").due(text.length(), "clearText").due(0, "undoDepth");
   }
 
+  int calls() {
+    return count;
+  }
+
   Run type(String text) {
     for (int i = 0; i < text.length(); i++) {
       if (call("append", text.charAt(i)) < 1) fault("a character is refused; run: " + calls);
